@@ -79,9 +79,6 @@ public final class GlassTank {
         if (!isWithin(doubt, 0, mostDoubt(kind)) || !isWithin(price, 0, MOST_PRICE)) {
             return NO;
         }
-        if (feeds.count >= MOST_FEEDS) {
-            return NO;
-        }
         return feeds.add(kind, a, b, c, d, doubt, price);
     }
 
@@ -172,9 +169,6 @@ public final class GlassTank {
     }
 
     public int colour() {
-        if (colours.count >= MOST_COLOURS) {
-            return NO;
-        }
         return colours.add();
     }
 
@@ -434,6 +428,7 @@ public final class GlassTank {
             return f >= 0 && f < count;
         }
 
+        /** The new feed's number, or NO when there are as many as there may be. */
         int add(int kind, int a, int b, int c, int d, int doubt, int price) {
             if (count >= MOST_FEEDS) {
                 return NO;
@@ -498,6 +493,7 @@ public final class GlassTank {
             return c >= 0 && c < count;
         }
 
+        /** The new colour's number, or NO when there are as many as there may be. */
         int add() {
             if (count >= MOST_COLOURS) {
                 return NO;

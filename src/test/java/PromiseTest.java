@@ -25,6 +25,7 @@ public final class PromiseTest {
         promise15Hours();
         promise15Stocks();
         promise15Waste();
+        promise15AllAtOnce();
         promise16Glass();
         promise17Lead();
         promise18When();
@@ -328,6 +329,29 @@ public final class PromiseTest {
         spanIsSure(x, 3, 0, 24, 0);
         x.share(0, 0);
         due(x, 0, "sure", 0);
+        sureToTheMillionth();
+    }
+
+    private static void sureToTheMillionth() {
+        GlassTank x = new GlassTank();
+        x.feed(SAND, 1000, 0, 0, 0, 0, 0);
+        x.feed(SAND, 999, 1, 0, 0, 0, 0);
+        x.feed(BROKEN, 0, 1000, 0, 0, 5, 0);
+        x.colour();
+        x.share(0, 999);
+        x.share(1, 1);
+        x.mix();
+        spanIsSure(x, 0, 999, 1000, 1);
+        spanIsSure(x, 0, 1000, 1000, 0);
+        spanIsSure(x, 0, 0, 1000, 1);
+        spanIsSure(x, 1, 0, 1, 1);
+        spanIsSure(x, 1, 0, 0, 0);
+        x.share(0, 0);
+        x.share(1, 0);
+        x.share(2, 1000);
+        x.mix();
+        spanIsSure(x, 1, 995, 1000, 1);
+        spanIsSure(x, 0, 1, 1000, 0);
     }
 
     private static void spanIsSure(GlassTank x, int t, int least, int most, int sure) {
@@ -363,6 +387,22 @@ public final class PromiseTest {
         x.span(0, 0, 451, 459);
         refused(x, "cheapest", 0);
         cheapestOfEight();
+        cheapestIsTheLastTried();
+    }
+
+    private static void cheapestIsTheLastTried() {
+        GlassTank x = new GlassTank();
+        x.colour();
+        x.feed(SAND, 1000, 0, 0, 0, 0, 10000);
+        due(x, 10000000, "cheapest", 0);
+        due(x, 1000, "of", 0, 8);
+        x.feed(TINT, 1000, 0, 0, 0, 0, 1);
+        due(x, 1000, "cheapest", 0);
+        due(x, 0, "of", 0, 8);
+        due(x, 1000, "of", 1, 8);
+        x.feed(SAND, 1000, 0, 0, 0, 0, 0);
+        due(x, 0, "cheapest", 0);
+        due(x, 1000, "of", 2, 8);
     }
 
     private static void cheapestOfEight() {
@@ -499,6 +539,66 @@ public final class PromiseTest {
         due(x, 540, "told", 4);
     }
 
+    /** As many feeds, cells and colours as there may be, all in use. */
+    private static void promise15AllAtOnce() {
+        GlassTank x = new GlassTank();
+        for (int f = 0; f < 8; f++) {
+            x.feed(f == 0 ? OWN : f == 7 ? TINT : SAND, 250 + f, 250 - f, 240 + 3 * f, 260 - 3 * f, 0, 0);
+            x.stock(f, 1000000);
+            x.share(f, 125);
+        }
+        x.mix();
+        for (int c = 0; c < 6; c++) {
+            x.colour();
+            x.span(c, 0, c == 5 ? 0 : 999, 1000);
+        }
+        x.tank(6, 1237, 123, 7);
+        due(x, 50, "hours", 50);
+        for (int c = 0; c < 6; c++) {
+            int sum = 0;
+            for (int f = 0; f < 8; f++) {
+                sum += x.cell(c, f, -1);
+            }
+            checks.due("grams of all feeds in cell " + c, sum, 1237);
+            due(x, 1237, "cell", c, -1, -1);
+        }
+        for (int hour = 0; hour < 50; hour++) {
+            int sum = 0;
+            for (int f = 0; f < 8; f++) {
+                sum += x.lead(hour, f);
+            }
+            checks.due("grams of all feeds in the glass of hour " + hour, sum, 123);
+            due(x, 5, "glass", hour, 4);
+        }
+        // feed 0 is OWN and gets the waste; each feed gives 15 or 16 grams an hour, the first three 16
+        due(x, 1000000 - 50 * 16 + 50 * 123, "of", 0, 7);
+        due(x, 1000000 - 50 * 15, "of", 7, 7);
+        due(x, 1, "when", 5);
+        due(x, 0, "when", 0);
+        due(x, 0, "dose", 0, 7);
+        due(x, 0, "between");
+        x.span(5, 0, 999, 1000);
+        due(x, 100, "between");
+        wasteWithoutOwn();
+    }
+
+    private static void wasteWithoutOwn() {
+        GlassTank x = new GlassTank();
+        for (int f = 0; f < 8; f++) {
+            x.feed(f % 3, 1000, 0, 0, 0, 0, 0);
+            x.stock(f, 100);
+        }
+        x.share(0, 1000);
+        x.mix();
+        x.tank(2, 100, 30, 0);
+        due(x, 3, "hours", 5);
+        due(x, 10, "of", 0, 7);
+        for (int f = 1; f < 8; f++) {
+            due(x, 100, "of", f, 7);
+        }
+        due(x, 90, "told", 4);
+    }
+
     private static void promise16Glass() {
         GlassTank x = twoCells();
         x.colour();
@@ -543,12 +643,19 @@ public final class PromiseTest {
             due(x, leads[hour][1], "lead", hour, 1);
             due(x, 60, "glass", hour, 0);
         }
+        // a single gram of a thing goes out too
+        x.feed(SAND, 990, 10, 0, 0, 0, 0);
+        x.tank(2, 100, 100, 2);
+        x.hours(3);
+        due(x, 99, "glass", 0, 0);
+        due(x, 1, "glass", 0, 1);
+        due(x, 100, "lead", 0, 2);
         refused(x, "lead", 3, 0);
         refused(x, "lead", -1, 0);
-        refused(x, "lead", 0, 2);
+        refused(x, "lead", 0, 3);
         refused(x, "lead", 0, -1);
         x.feed(SAND, 600, 400, 0, 0, 0, 0);
-        due(x, 0, "lead", 0, 2);
+        due(x, 0, "lead", 0, 3);
     }
 
     private static void promise18When() {
@@ -667,6 +774,23 @@ public final class PromiseTest {
         due(x, 0, "dose", 0, 1);
         refused(Sample.prepared(), "dose", 1, 1);
         doseOfATintInTheMix();
+        doseForTenHours();
+    }
+
+    private static void doseForTenHours() {
+        GlassTank x = new GlassTank();
+        x.feed(SAND, 1000, 0, 0, 0, 0, 0);
+        x.feed(TINT, 0, 0, 0, 1000, 0, 0);
+        x.colour();
+        x.tank(2, 1000, 100, 0);
+        x.share(0, 1000);
+        x.mix();
+        x.span(0, 3, 160, 1000);
+        due(x, 1350009, "dose", 0, 1);
+        x.span(0, 3, 190, 1000);
+        due(x, 1750010, "dose", 0, 1);
+        x.span(0, 3, 191, 1000);
+        due(x, 0, "dose", 0, 1);
     }
 
     private static void doseOfATintInTheMix() {
@@ -676,6 +800,16 @@ public final class PromiseTest {
         due(x, 1450008, "dose", 1, 1);
         due(x, 100000, "dose", 0, 1);
         due(x, 0, "dose", 2, 1);
+        // all of a cell goes on each hour: glass of hour 3 came in in hour 1, with a dose of 500 as tint by 250 and 500
+        x.share(0, 500);
+        x.share(1, 500);
+        x.mix();
+        x.tank(2, 100, 100, 0);
+        x.span(1, 2, 370, 380);
+        due(x, 0, "when", 1);
+        due(x, 350001, "dose", 1, 1);
+        x.span(1, 2, 340, 350);
+        due(x, 340001, "dose", 1, 1);
     }
 
     private static void promise21Change() {
@@ -717,6 +851,8 @@ public final class PromiseTest {
         ringIs(x, 1, 3, 2, 5);
         due(x, 0, "ring", 32);
         ringIs(x, 5);
+        due(x, 0, "ring", 1);
+        ringIs(x, 0);
         x.change(1, 2, 7);
         due(x, 107, "ring", 6);
         refused(x, "ring", 0);
