@@ -1,3 +1,5 @@
+import java.lang.reflect.InvocationTargetException;
+
 /** The calls of the face by number, so that a run of calls can be kept, made again and printed. */
 final class Calls {
     static final String[] NAMES = {"feed", "stock", "of", "tank", "pull", "cell", "share", "mix", "colour",
@@ -25,59 +27,20 @@ final class Calls {
         return text.append(')').toString();
     }
 
-    static int on(GlassTank x, int call, int[] a) {
-        switch (NAMES[call]) {
-            case "feed": return x.feed(a[0], a[1], a[2], a[3], a[4], a[5], a[6]);
-            case "stock": return x.stock(a[0], a[1]);
-            case "of": return x.of(a[0], a[1]);
-            case "tank": return x.tank(a[0], a[1], a[2], a[3]);
-            case "pull": return x.pull(a[0]);
-            case "cell": return x.cell(a[0], a[1], a[2]);
-            case "share": return x.share(a[0], a[1]);
-            case "mix": return x.mix();
-            case "colour": return x.colour();
-            case "span": return x.span(a[0], a[1], a[2], a[3]);
-            case "sure": return x.sure(a[0]);
-            case "cheapest": return x.cheapest(a[0]);
-            case "want": return x.want(a[0]);
-            case "hours": return x.hours(a[0]);
-            case "glass": return x.glass(a[0], a[1]);
-            case "lead": return x.lead(a[0], a[1]);
-            case "when": return x.when(a[0]);
-            case "between": return x.between();
-            case "dose": return x.dose(a[0], a[1]);
-            case "change": return x.change(a[0], a[1], a[2]);
-            case "ring": return x.ring(a[0]);
-            case "next": return x.next(a[0]);
-            default: return x.told(a[0]);
+    /** Makes the call on a GlassTank or a PlainTank, with as many arguments as it takes. */
+    static int on(Object x, int call, int[] a) {
+        Class<?>[] types = new Class<?>[SIZES[call]];
+        Object[] arguments = new Object[SIZES[call]];
+        for (int i = 0; i < SIZES[call]; i++) {
+            types[i] = int.class;
+            arguments[i] = a[i];
         }
-    }
-
-    static int on(PlainTank x, int call, int[] a) {
-        switch (NAMES[call]) {
-            case "feed": return x.feed(a[0], a[1], a[2], a[3], a[4], a[5], a[6]);
-            case "stock": return x.stock(a[0], a[1]);
-            case "of": return x.of(a[0], a[1]);
-            case "tank": return x.tank(a[0], a[1], a[2], a[3]);
-            case "pull": return x.pull(a[0]);
-            case "cell": return x.cell(a[0], a[1], a[2]);
-            case "share": return x.share(a[0], a[1]);
-            case "mix": return x.mix();
-            case "colour": return x.colour();
-            case "span": return x.span(a[0], a[1], a[2], a[3]);
-            case "sure": return x.sure(a[0]);
-            case "cheapest": return x.cheapest(a[0]);
-            case "want": return x.want(a[0]);
-            case "hours": return x.hours(a[0]);
-            case "glass": return x.glass(a[0], a[1]);
-            case "lead": return x.lead(a[0], a[1]);
-            case "when": return x.when(a[0]);
-            case "between": return x.between();
-            case "dose": return x.dose(a[0], a[1]);
-            case "change": return x.change(a[0], a[1], a[2]);
-            case "ring": return x.ring(a[0]);
-            case "next": return x.next(a[0]);
-            default: return x.told(a[0]);
+        try {
+            return (int) x.getClass().getDeclaredMethod(NAMES[call], types).invoke(x, arguments);
+        } catch (InvocationTargetException thrown) {
+            throw new IllegalStateException(text(call, a) + " threw " + thrown.getCause(), thrown);
+        } catch (ReflectiveOperationException missing) {
+            throw new IllegalStateException("there is no " + text(call, a), missing);
         }
     }
 }
