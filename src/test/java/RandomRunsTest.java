@@ -34,13 +34,15 @@ public final class RandomRunsTest {
         // the plain reading is slow with doses
         int doses = 0;
         List<int[]> first = seed % 2 == 0 ? changeOfColour() : List.of();
-        for (int i = 0; i < 200; i++) {
+        int calls = seed % 10 == 0 ? Run.MOST_CALLS : 200;
+        for (int i = 0; i < calls; i++) {
             String name = i < first.size() ? Calls.NAMES[first.get(i)[0]] : nameOfCall(first.isEmpty() ? i : i + 30);
             if (name.equals("dose") && ++doses > 4) {
                 name = "hours";
             }
             int call = Calls.number(name);
-            int[] a = i < first.size() ? Arrays.copyOfRange(first.get(i), 1, first.get(i).length) : arguments(name, x);
+            // by what the plain reading holds: the object has no calls but the run's own
+            int[] a = i < first.size() ? Arrays.copyOfRange(first.get(i), 1, first.get(i).length) : arguments(name, y);
             int got = Calls.on(x, call, a);
             told.add(Calls.text(call, a) + " " + got);
             checks.due("run " + seed + ", call " + i + ": " + Calls.text(call, a), got, Calls.on(y, call, a));
@@ -116,16 +118,16 @@ public final class RandomRunsTest {
         return random.nextInt(Math.max(1, bound));
     }
 
-    private int aFeed(GlassTank x) {
-        return below(x.told(0));
+    private int aFeed(PlainTank y) {
+        return below(y.told(0));
     }
 
-    private int aColour(GlassTank x) {
-        return below(x.told(2));
+    private int aColour(PlainTank y) {
+        return below(y.told(2));
     }
 
-    private int[] arguments(String name, GlassTank x) {
-        int[] a = likely(name, x);
+    private int[] arguments(String name, PlainTank y) {
+        int[] a = likely(name, y);
         if (random.nextInt(12) == 0 && a.length > 0) {
             a[random.nextInt(a.length)] = EDGES[random.nextInt(EDGES.length)];
         } else if (random.nextInt(12) == 0 && a.length > 0) {
@@ -134,24 +136,24 @@ public final class RandomRunsTest {
         return a;
     }
 
-    private int[] likely(String name, GlassTank x) {
+    private int[] likely(String name, PlainTank y) {
         switch (name) {
             case "feed": return aNewFeed();
-            case "stock": return new int[] {aFeed(x), random.nextBoolean() ? below(3000) : below(9000000)};
-            case "of": return new int[] {aFeed(x), below(9)};
-            case "tank": return aTank(x);
+            case "stock": return new int[] {aFeed(y), random.nextBoolean() ? below(3000) : below(9000000)};
+            case "of": return new int[] {aFeed(y), below(9)};
+            case "tank": return aTank(y);
             case "pull": return new int[] {1 + below(great ? 40000 : 300)};
-            case "cell": return new int[] {below(x.told(1)), below(x.told(0) + 1) - 1, below(5) - 1};
-            case "share": return new int[] {aFeed(x), aShare(x)};
-            case "span": return aSpan(x);
-            case "sure": case "cheapest": case "when": return new int[] {aColour(x)};
-            case "want": return new int[] {below(x.told(2) + 1) - 1};
+            case "cell": return new int[] {below(y.told(1)), below(y.told(0) + 1) - 1, below(5) - 1};
+            case "share": return new int[] {aFeed(y), aShare(y)};
+            case "span": return aSpan(y);
+            case "sure": case "cheapest": case "when": return new int[] {aColour(y)};
+            case "want": return new int[] {below(y.told(2) + 1) - 1};
             case "hours": return new int[] {1 + below(50)};
-            case "glass": return new int[] {below(x.told(3)), below(7)};
-            case "lead": return new int[] {below(x.told(3)), aFeed(x)};
-            case "dose": return new int[] {aColour(x), aTint(x)};
-            case "change": return new int[] {aColour(x), aColour(x), random.nextBoolean() ? below(4) : below(1001)};
-            case "ring": return new int[] {random.nextInt(6) == 0 ? below(70) : below(1 << x.told(2))};
+            case "glass": return new int[] {below(y.told(3)), below(7)};
+            case "lead": return new int[] {below(y.told(3)), aFeed(y)};
+            case "dose": return new int[] {aColour(y), aTint(y)};
+            case "change": return new int[] {aColour(y), aColour(y), random.nextBoolean() ? below(4) : below(1001)};
+            case "ring": return new int[] {random.nextInt(6) == 0 ? below(70) : below(1 << y.told(2))};
             case "next": return new int[] {below(8) - 1};
             case "told": return new int[] {below(7)};
             default: return new int[0];
@@ -172,39 +174,39 @@ public final class RandomRunsTest {
         return new int[] {kind, cuts[0], cuts[1], cuts[2], cuts[3], doubt, price};
     }
 
-    private int[] aTank(GlassTank x) {
+    private int[] aTank(PlainTank y) {
         int w = great ? 100 + below(99901) : 100 + below(2000);
         int p = random.nextInt(8) == 0 ? w : 1 + below(w / (1 + below(20)));
-        return new int[] {2 + below(5), w, p, aFeed(x)};
+        return new int[] {2 + below(5), w, p, aFeed(y)};
     }
 
     /** Often what is missing to 1000, so that mixes come about. */
-    private int aShare(GlassTank x) {
+    private int aShare(PlainTank y) {
         int sum = 0;
-        for (int f = 0; f < x.told(0); f++) {
-            int s = x.share(f, 0);
-            x.share(f, s);
+        for (int f = 0; f < y.told(0); f++) {
+            int s = y.share(f, 0);
+            y.share(f, s);
             sum += s;
         }
         return random.nextBoolean() && sum <= 1000 ? 1000 - sum : below(1001);
     }
 
-    private int[] aSpan(GlassTank x) {
+    private int[] aSpan(PlainTank y) {
         int t = below(4);
-        if (random.nextInt(6) == 0 || x.told(0) == 0) {
+        if (random.nextInt(6) == 0 || y.told(0) == 0) {
             int least = below(1001);
-            return new int[] {aColour(x), t, least, least + below(1001 - least)};
+            return new int[] {aColour(y), t, least, least + below(1001 - least)};
         }
         int part = below(11);
-        int centre = (x.of(aFeed(x), t) * part + x.of(aFeed(x), t) * (10 - part)) / 10;
+        int centre = (y.of(aFeed(y), t) * part + y.of(aFeed(y), t) * (10 - part)) / 10;
         int least = Math.max(0, centre - below(120));
-        return new int[] {aColour(x), t, least, Math.min(1000, centre + below(120))};
+        return new int[] {aColour(y), t, least, Math.min(1000, centre + below(120))};
     }
 
-    private int aTint(GlassTank x) {
-        int f = aFeed(x);
-        for (int i = 0; i < 8 && x.of(f, 4) != 2; i++) {
-            f = (f + 1) % Math.max(1, x.told(0));
+    private int aTint(PlainTank y) {
+        int f = aFeed(y);
+        for (int i = 0; i < 8 && y.of(f, 4) != 2; i++) {
+            f = (f + 1) % Math.max(1, y.told(0));
         }
         return f;
     }

@@ -90,7 +90,7 @@ public final class RulesTest {
         int[] edges = {Integer.MIN_VALUE, -7, -1, 0, 1, 2, 3, 5, 6, 7, 8, 9, 50, 100, 1000, Integer.MAX_VALUE};
         Random random = new Random(7);
         for (int run = 0; run < 300; run++) {
-            GlassTank x = run % 3 == 0 ? new GlassTank() : Sample.running();
+            GlassTank x = run % 3 == 0 ? new GlassTank() : Sample.running(checks).object();
             for (int i = 0; i < 512; i++) {
                 int call = random.nextInt(Calls.NAMES.length);
                 int[] a = new int[7];
@@ -111,7 +111,7 @@ public final class RulesTest {
     private static void noCallMakesObjects() {
         com.sun.management.ThreadMXBean bean =
                 (com.sun.management.ThreadMXBean) ManagementFactory.getThreadMXBean();
-        GlassTank x = Sample.running();
+        GlassTank x = Sample.running(checks).object();
         for (int i = 0; i < 200; i++) {
             everyCall(x);
         }

@@ -1,36 +1,73 @@
-/** Tanks that tests begin with. */
+/** Runs that tests begin with. */
 final class Sample {
+    static final int SAND = 0;
+    static final int BROKEN = 1;
+    static final int TINT = 2;
+    static final int OWN = 3;
+
     private Sample() {
     }
 
-    /** The feeds, colours and mix of the first run under shared/tests, with two more colours; no tank yet. */
-    static GlassTank prepared() {
-        GlassTank x = new GlassTank();
-        x.feed(0, 700, 300, 0, 0, 0, 20);
-        x.feed(2, 500, 0, 500, 0, 0, 400);
-        x.feed(3, 690, 290, 15, 5, 10, 0);
-        x.stock(0, 5000);
-        x.stock(1, 900);
-        x.colour();
-        x.span(0, 2, 0, 10);
-        x.colour();
-        x.span(1, 2, 40, 60);
-        x.colour();
-        x.span(2, 3, 900, 1000);
-        x.share(0, 900);
-        x.share(1, 100);
-        x.mix();
+    /** The feeds, colours and mix of the first run under shared/tests, with one more colour; no tank yet. */
+    static Run prepared(Checks checks) {
+        return new Run(checks)
+                .set("feed", SAND, 700, 300, 0, 0, 0, 20)
+                .set("feed", TINT, 500, 0, 500, 0, 0, 400)
+                .set("feed", OWN, 690, 290, 15, 5, 10, 0)
+                .set("stock", 0, 5000)
+                .set("stock", 1, 900)
+                .set("colour")
+                .set("span", 0, 2, 0, 10)
+                .set("colour")
+                .set("span", 1, 2, 40, 60)
+                .set("colour")
+                .set("span", 2, 3, 900, 1000)
+                .set("share", 0, 900)
+                .set("share", 1, 100)
+                .set("mix");
+    }
+
+    /** Eight hours later, with some of all that can be set. */
+    static Run running(Checks checks) {
+        return prepared(checks)
+                .set("tank", 3, 1000, 100, 0)
+                .set("want", 0)
+                .set("change", 0, 1, 5)
+                .set("change", 1, 0, 9)
+                .set("ring", 3)
+                .set("hours", 8);
+    }
+
+    /** Sand of thing 0 and broken glass of thing 1, both without doubt; no stock, no mix, no tank. */
+    static Run twoFeeds(Checks checks) {
+        return new Run(checks)
+                .set("feed", SAND, 1000, 0, 0, 0, 0, 1)
+                .set("feed", BROKEN, 0, 1000, 0, 0, 0, 1);
+    }
+
+    /** Much of both, a mix of broken glass alone, two cells of 100 grams full of sand, and a pull of 50. */
+    static Run twoCells(Checks checks) {
+        return twoFeeds(checks)
+                .set("stock", 0, 1000000)
+                .set("stock", 1, 1000000)
+                .set("share", 1, 1000)
+                .set("mix")
+                .set("tank", 2, 100, 50, 0);
+    }
+
+    /** As many feeds as there may be, sand of thing 0 each. */
+    static Run eightFeeds(Checks checks) {
+        Run x = new Run(checks);
+        for (int f = 0; f < 8; f++) {
+            x.set("feed", SAND, 1000, 0, 0, 0, 0, 0);
+        }
         return x;
     }
 
-    static GlassTank running() {
-        GlassTank x = prepared();
-        x.tank(3, 1000, 100, 0);
-        x.want(0);
-        x.change(0, 1, 5);
-        x.change(1, 0, 9);
-        x.ring(3);
-        x.hours(8);
+    static Run withColours(Run x, int count) {
+        for (int c = 0; c < count; c++) {
+            x.set("colour");
+        }
         return x;
     }
 }

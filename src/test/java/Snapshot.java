@@ -1,68 +1,105 @@
-/** All that can be seen of a GlassTank, as a text: what two calls of it tell differs if something has changed. */
+/** All that can be seen of an object, as a text: two texts differ if something has changed. */
 final class Snapshot {
-    private Snapshot() {
+    private final Run x;
+    private final StringBuilder text = new StringBuilder();
+
+    private Snapshot(Run x) {
+        this.x = x;
     }
 
-    static String of(GlassTank x) {
-        StringBuilder text = new StringBuilder();
+    /** Uses the run up: to see what a call sets, it is made and made good again. */
+    static String of(Run x) {
+        Snapshot one = new Snapshot(x);
+        one.part("told");
         for (int what = 0; what < 7; what++) {
-            text.append(x.told(what)).append(' ');
+            one.see("told", what);
         }
-        feeds(x, text.append("; feeds "));
-        tank(x, text.append("; tank "));
-        colours(x, text.append("; colours "));
-        hours(x, text.append("; hours "));
+        one.feeds();
+        one.tank();
+        one.colours();
+        one.hours();
+        one.part("ring");
         for (int k = 0; k < 7; k++) {
-            text.append(x.next(k)).append(' ');
+            one.see("next", k);
         }
-        return text.toString();
+        return one.text.toString();
     }
 
-    private static void feeds(GlassTank x, StringBuilder text) {
-        for (int f = 0; f < x.told(0); f++) {
+    private void part(String name) {
+        text.append("; ").append(name);
+    }
+
+    private void see(String name, int... a) {
+        text.append(' ').append(x.ask(name, a));
+    }
+
+    /** What a call that answers what was before has set; its last argument is what it sets. */
+    private void seeSet(String name, int... a) {
+        int was = x.ask(name, a);
+        text.append(' ').append(was);
+        if (was != Run.NO) {
+            a[a.length - 1] = was;
+            x.ask(name, a);
+        }
+    }
+
+    private void feeds() {
+        int count = x.ask("told", 0);
+        for (int f = 0; f < count; f++) {
+            part("feed");
             for (int what = 0; what < 9; what++) {
-                text.append(x.of(f, what)).append(' ');
+                see("of", f, what);
             }
-            int toCome = x.share(f, 0);
-            x.share(f, toCome);
-            text.append(toCome).append(", ");
+            seeSet("share", f, 0);
         }
     }
 
-    private static void tank(GlassTank x, StringBuilder text) {
-        int pull = x.pull(1);
-        x.pull(pull);
-        text.append(pull).append(' ');
-        for (int c = 0; c < x.told(1); c++) {
-            for (int f = -1; f < x.told(0); f++) {
-                for (int t = -1; t < 4; t++) {
-                    text.append(x.cell(c, f, t)).append(' ');
+    private void tank() {
+        part("pull");
+        seeSet("pull", 1);
+        int feeds = x.ask("told", 0);
+        int cells = x.ask("told", 1);
+        for (int c = 0; c < cells; c++) {
+            part("cell");
+            for (int f = 0; f < feeds; f++) {
+                for (int t = 0; t < 4; t++) {
+                    see("cell", c, f, t);
                 }
             }
         }
     }
 
-    private static void colours(GlassTank x, StringBuilder text) {
-        int wanted = x.want(-1);
-        x.want(wanted);
-        text.append(wanted).append(' ').append(x.between()).append(' ');
-        for (int c = 0; c < x.told(2); c++) {
-            text.append(x.sure(c)).append(' ').append(x.when(c)).append(' ');
-            for (int d = 0; d < x.told(2); d++) {
-                int took = x.change(c, d, 0);
-                x.change(c, d, took);
-                text.append(took).append(' ');
+    private void colours() {
+        part("wanted");
+        seeSet("want", -1);
+        see("between");
+        int count = x.ask("told", 2);
+        for (int c = 0; c < count; c++) {
+            part("colour");
+            see("sure", c);
+            see("when", c);
+            for (int d = 0; d < count; d++) {
+                if (c != d) {
+                    seeSet("change", c, d, 0);
+                }
             }
         }
     }
 
-    private static void hours(GlassTank x, StringBuilder text) {
-        for (int hour = 0; hour < x.told(3); hour++) {
-            for (int what = 0; what < 7; what++) {
-                text.append(x.glass(hour, what)).append(' ');
+    /** Of many hours the first and the last ones. */
+    private void hours() {
+        int feeds = x.ask("told", 0);
+        int count = x.ask("told", 3);
+        for (int hour = 0; hour < count; hour++) {
+            if (hour >= 3 && hour < count - 3) {
+                continue;
             }
-            for (int f = 0; f < x.told(0); f++) {
-                text.append(x.lead(hour, f)).append(' ');
+            part("hour");
+            for (int what = 0; what < 7; what++) {
+                see("glass", hour, what);
+            }
+            for (int f = 0; f < feeds; f++) {
+                see("lead", hour, f);
             }
         }
     }
