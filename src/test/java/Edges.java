@@ -90,6 +90,10 @@ abstract class Edges {
         return Sample.eightFeeds(checks);
     }
 
+    final Run full() {
+        return Sample.full(checks);
+    }
+
     final Run withColours(Run x, int count) {
         return Sample.withColours(x, count);
     }

@@ -128,6 +128,9 @@ final class FlowEdges extends Edges {
         // 9.99 and 0.01 grams: the second one gives none, and needs none
         twoFeeds().set("share", 0, 999).set("share", 1, 1).set("mix").set("tank", 2, 100, 10, 0).set("stock", 0, 10)
                 .due(1, "hours", 1).due(0, "of", 0, 7).due(0, "of", 1, 7);
+        // the last feed that there may be
+        eightFeeds().set("share", 7, 1000).set("mix").set("tank", 2, 100, 10, 0).set("stock", 7, 9)
+                .keeps(0, "hours", 1).set("stock", 7, 1).due(1, "hours", 2).due(0, "of", 7, 7);
 
         sentence("WASTE comes to a STOCK at its end.)");
         x = empty().set("feed", OWN, 1000, 0, 0, 0, 0, 0).set("share", 0, 1000).set("mix").set("tank", 2, 100, 10, 0)

@@ -74,8 +74,8 @@ final class HourEdges extends Edges {
 
         sentence("NO: no such COLOUR.");
         empty().refused("want", 0);
-        withColours(empty(), 3).set("want", 1).refused("want", -2).refused("want", 3).refused("want", LOW)
-                .refused("want", HIGH).refused("want", NO).due(1, "want", 2);
+        running().refused("want", -2).refused("want", 3).refused("want", LOW).refused("want", HIGH)
+                .refused("want", NO).due(0, "want", 2).refused("want", 3).due(2, "want", -1);
         withColours(empty(), 6).refused("want", 6).due(-1, "want", 5);
     }
 
@@ -103,8 +103,9 @@ final class HourEdges extends Edges {
 
     private void hoursRefused() {
         sentence("NO: n is not 1..50;");
-        twoCells().refused("hours", 0).refused("hours", 51).refused("hours", -1).refused("hours", LOW)
-                .refused("hours", HIGH).due(1, "hours", 1).due(50, "hours", 50);
+        running().refused("hours", 0).refused("hours", 51).refused("hours", -1).refused("hours", LOW)
+                .refused("hours", HIGH).due(1, "hours", 1);
+        twoCells().refused("hours", 51).due(50, "hours", 50);
 
         sentence("THE TANK was not made,");
         prepared().refused("hours", 1).refused("tank", 3, 1000, 1001, 0).refused("hours", 1)
@@ -161,6 +162,7 @@ final class HourEdges extends Edges {
         twoCells().refused("glass", 0, 0).set("hours", 2).refused("glass", -1, 0).refused("glass", 2, 0)
                 .refused("glass", LOW, 6).refused("glass", HIGH, 6).refused("glass", 1 << 30, 0)
                 .due(50, "glass", 0, 0).due(50, "glass", 1, 0);
+        running().refused("glass", -1, 0).refused("glass", 8, 0).due(70, "glass", 7, 0);
         prepared().refused("glass", 0, 0);
 
         sentence("or what.");
@@ -183,6 +185,7 @@ final class HourEdges extends Edges {
         twoCells().refused("lead", 0, 0).set("hours", 2).refused("lead", -1, 0).refused("lead", 2, 0)
                 .refused("lead", LOW, 0).refused("lead", HIGH, 0).refused("lead", 1 << 30, 0)
                 .due(50, "lead", 0, 0).due(50, "lead", 1, 0);
+        running().refused("lead", -1, 0).refused("lead", 8, 0).due(100, "lead", 7, 0);
         prepared().refused("lead", 0, 0);
 
         sentence("or FEED.");

@@ -30,12 +30,12 @@ final class MixEdges extends Edges {
 
         sentence("NO: no such FEED,");
         empty().refused("share", 0, 0);
-        twoFeeds().refused("share", -1, 5).refused("share", 2, 5).refused("share", LOW, 5).refused("share", HIGH, 5)
-                .due(0, "share", 1, 5).due(0, "share", 0, 5);
+        running().refused("share", -1, 5).refused("share", 3, 5).refused("share", LOW, 5).refused("share", HIGH, 5)
+                .due(0, "share", 2, 5).due(900, "share", 0, 5);
         eightFeeds().refused("share", 8, 5).due(0, "share", 7, 5);
 
         sentence("or s is not 0..1000.");
-        twoFeeds().set("share", 0, 7).refused("share", 0, -1).refused("share", 0, 1001).refused("share", 0, LOW)
+        running().set("share", 0, 7).refused("share", 0, -1).refused("share", 0, 1001).refused("share", 0, LOW)
                 .refused("share", 0, HIGH).due(7, "share", 0, 0).due(0, "share", 0, 1000);
     }
 
@@ -54,7 +54,9 @@ final class MixEdges extends Edges {
 
         sentence("NO: they are not 1000 together.");
         empty().refused("mix");
-        x = twoFeeds().refused("mix").set("share", 0, 999).refused("mix").set("share", 1, 2).refused("mix")
+        running().set("share", 0, 899).refused("mix").set("share", 0, 901).refused("mix").set("share", 0, 900)
+                .due(1, "mix");
+        twoFeeds().refused("mix").set("share", 0, 999).refused("mix").set("share", 1, 2).refused("mix")
                 .set("share", 1, 1).due(1, "mix").set("share", 0, 1000).refused("mix")
                 .due(999, "of", 0, 8).due(1, "of", 1, 8);
         x = eightFeeds();
@@ -114,6 +116,7 @@ final class MixEdges extends Edges {
                 .refused("span", 0, LOW, 501, 1000).refused("span", 0, HIGH, 501, 1000)
                 .due(1, "span", 0, 0, 0, 1000).due(1, "span", 1, 3, 0, 1000);
         withColours(empty(), 6).refused("span", 6, 0, 501, 1000).due(1, "span", 5, 0, 501, 1000);
+        running().refused("span", 3, 0, 0, 0).refused("span", 0, 4, 0, 0);
 
         sentence("least or most is not 0..1000,");
         // a half that was taken would show: glass of 500 would no longer be of the colour
@@ -121,6 +124,7 @@ final class MixEdges extends Edges {
                 .refused("span", 0, 0, 1001, 1001).refused("span", 0, 0, LOW, 499).refused("span", 0, 0, 501, HIGH)
                 .due(1, "span", 0, 3, 0, 0).due(1, "when", 0).due(1, "span", 0, 3, 1000, 1000).due(0, "when", 0)
                 .due(1, "span", 0, 3, 0, 1000).due(1, "when", 0);
+        running().refused("span", 0, 0, -1, 0).refused("span", 0, 0, 0, 1001);
 
         sentence("or least above most.");
         halves().refused("span", 0, 0, 501, 500).refused("span", 0, 0, 1000, 0).refused("span", 0, 1, 1000, 999)
@@ -139,6 +143,7 @@ final class MixEdges extends Edges {
         twoCells().refused("sure", 0).set("colour").refused("sure", -1).refused("sure", 1).refused("sure", LOW)
                 .refused("sure", HIGH).due(1, "sure", 0);
         withColours(twoCells(), 6).refused("sure", 6).due(1, "sure", 5);
+        running().refused("sure", 3).due(1, "sure", 1);
 
         sentence("there is no MIX.");
         withColours(twoFeeds(), 1).refused("sure", 0).set("share", 0, 1000).refused("sure", 0)
@@ -185,6 +190,9 @@ final class MixEdges extends Edges {
         spanIsSure(x, 1, 0, 499, 0);
         spanIsSure(x, 0, 0, 540, 1);
         spanIsSure(x, 0, 0, 539, 0);
+        x = withColours(empty(), 1).set("feed", BROKEN, 999, 1, 0, 0, 1, 0).set("share", 0, 1000).set("mix");
+        spanIsSure(x, 0, 998, 1000, 1);
+        spanIsSure(x, 0, 0, 999, 0);
 
         // a millionth of thing 1
         x = withColours(empty(), 1).set("feed", SAND, 1000, 0, 0, 0, 0, 0).set("feed", SAND, 999, 1, 0, 0, 0, 0)
@@ -195,6 +203,7 @@ final class MixEdges extends Edges {
         sentence("MOST times 1000 at most.");
         spanIsSure(x, 1, 0, 1, 1);
         spanIsSure(x, 1, 0, 0, 0);
+        spanIsSure(x, 0, 0, 999, 0);
     }
 
     private void cheapest() {
@@ -211,10 +220,12 @@ final class MixEdges extends Edges {
         twoCells().refused("cheapest", 0).set("colour").refused("cheapest", -1).refused("cheapest", 1)
                 .refused("cheapest", LOW).refused("cheapest", HIGH).due(1000, "cheapest", 0);
         withColours(twoCells(), 6).refused("cheapest", 6).due(1000, "cheapest", 5);
+        running().refused("cheapest", 3).refused("cheapest", -1);
 
         sentence("or there is none.");
         // no feeds, then no mix that is sure; the mix and the shares told differ, and both stay
         withColours(empty(), 1).refused("cheapest", 0);
+        running().set("share", 0, 5).refused("cheapest", 2);
         withColours(twoCells(), 1).set("share", 0, 5).set("span", 0, 2, 1, 1000).refused("cheapest", 0)
                 .set("span", 0, 2, 0, 1000).due(1000, "cheapest", 0);
         // 450 and 550 would be sure

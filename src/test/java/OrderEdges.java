@@ -93,6 +93,7 @@ final class OrderEdges extends Edges {
 
         sentence("or has a bit of none.");
         empty().refused("ring", 1).refused("ring", -1);
+        running().refused("ring", 8).refused("ring", 15).due(5, "ring", 7);
         x = empty();
         for (int c = 0; c < 6; c++) {
             x.set("colour").refused("ring", 1 << (c + 1)).refused("ring", (1 << (c + 1)) + 1)

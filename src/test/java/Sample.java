@@ -64,6 +64,18 @@ final class Sample {
         return x;
     }
 
+    /** As many feeds and colours as there may be, all in the mix or with a change, and an hour that went by. */
+    static Run full(Checks checks) {
+        Run x = withColours(new Run(checks), 6);
+        for (int f = 0; f < 8; f++) {
+            x.set("feed", f % 4, 1000 - f, f, 0, 0, 0, f).set("stock", f, 1000).set("share", f, 125);
+        }
+        for (int c = 0; c < 6; c++) {
+            x.set("span", c, 0, 990 + c, 1000).set("change", c, (c + 1) % 6, 1 + c);
+        }
+        return x.set("mix").set("tank", 2, 1000, 100, 7).set("want", 5).set("ring", 63).set("hours", 1);
+    }
+
     static Run withColours(Run x, int count) {
         for (int c = 0; c < count; c++) {
             x.set("colour");

@@ -7,21 +7,21 @@ final class Snapshot {
         this.x = x;
     }
 
-    /** Uses the run up: to see what a call sets, it is made and made good again. */
+    /** Uses the run up: what a call sets is seen by making it, and is made good again; that comes last. */
     static String of(Run x) {
         Snapshot one = new Snapshot(x);
         one.part("told");
         for (int what = 0; what < 7; what++) {
             one.see("told", what);
         }
-        one.feeds();
-        one.tank();
-        one.colours();
-        one.hours();
         one.part("ring");
         for (int k = 0; k < 7; k++) {
             one.see("next", k);
         }
+        one.hours();
+        one.feeds();
+        one.tank();
+        one.colours();
         return one.text.toString();
     }
 

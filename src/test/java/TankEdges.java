@@ -60,7 +60,8 @@ final class TankEdges extends Edges {
         // what is not the tank's stays: stocks, shares, wanted, ring
         Run x = running().set("pull", 77).due(1, "tank", 6, 100000, 100000, 2)
                 .due(4280, "of", 0, 7).due(820, "of", 1, 7).due(0, "of", 2, 7)
-                .due(900, "of", 0, 8).due(900, "share", 0, 900).due(1, "next", 1).due(5, "change", 0, 1, 5);
+                .due(900, "of", 0, 8).due(900, "share", 0, 900).due(1, "next", 1).due(5, "change", 0, 1, 5)
+                .due(3, "told", 0).due(3, "told", 2).due(0, "when", 2);
         for (int c = 0; c < 6; c++) {
             x.dues(row(69000, 29000, 1500, 500), "cell", c, 2).due(100000, "cell", c, -1, -1);
         }
@@ -68,6 +69,8 @@ final class TankEdges extends Edges {
         // a smaller one, then a greater one again: nothing is left of what was there
         x.due(1, "tank", 2, 100, 1, 0).due(1, "tank", 6, 100, 1, 0).due(0, "cell", 5, 2, -1)
                 .due(100, "cell", 5, 0, -1);
+        // the last number of a lot
+        lastOfLot().due(1, "tank", 2, 100, 1, 0).due(0, "cell", 0, 7, 3).due(100, "cell", 0, -1, -1);
 
         sentence("HOURS begin anew from 0, and what told() counts of them.");
         x = running().set("want", 1).set("hours", 2).due(10, "told", 3).due(200, "told", 4).due(1000, "told", 5)
@@ -75,6 +78,15 @@ final class TankEdges extends Edges {
                 .refused("glass", 0, 0).refused("lead", 0, 0)
                 .due(1, "hours", 1).due(1, "told", 3).due(50, "told", 4).due(50, "told", 5)
                 .due(50, "glass", 0, 6).refused("glass", 1, 6);
+    }
+
+    /** Two cells full of the last thing of the last feed that there may be. */
+    private Run lastOfLot() {
+        Run x = empty();
+        for (int f = 0; f < 7; f++) {
+            x.set("feed", SAND, 1000, 0, 0, 0, 0, 0);
+        }
+        return x.set("feed", SAND, 0, 0, 0, 1000, 0, 0).set("tank", 2, 100, 1, 7);
     }
 
     private void tankRefused() {
@@ -120,6 +132,7 @@ final class TankEdges extends Edges {
 
         sentence("NO: p is not 1..W.");
         empty().refused("pull", 0).refused("pull", 1001).due(100, "pull", 1000);
+        running().refused("pull", 0).refused("pull", 1001).due(100, "pull", 1000);
         twoCells().refused("pull", 0).refused("pull", 101).refused("pull", -1).refused("pull", LOW)
                 .refused("pull", HIGH).due(50, "pull", 100).due(100, "pull", 1)
                 // W is that of the tank now
@@ -139,6 +152,10 @@ final class TankEdges extends Edges {
                 .due(50, "cell", 0, 0, -1).due(50, "cell", 0, 1, -1).due(100, "cell", 0, -1, -1)
                 .dues(row(60, 40, 0, 0), "cell", 1, 0).dues(row(0, 0, 0, 0), "cell", 1, 1)
                 .due(100, "cell", 1, -1, -1);
+        lastOfLot().due(100, "cell", 1, 7, 3).due(100, "cell", 1, -1, 3).due(100, "cell", 1, 7, -1)
+                .due(100, "cell", 1, -1, -1).due(0, "cell", 1, 7, 2).due(0, "cell", 1, 6, -1);
+        // a feed that is new has nothing in it
+        twoCells().set("feed", SAND, 1000, 0, 0, 0, 0, 0).due(0, "cell", 0, 2, -1).due(0, "cell", 1, 2, 0);
 
         sentence("NO: no such CELL, FEED or THING;");
         term("THINGS are 0 to 3 (sand, lime, iron, chrome, say).");
@@ -149,6 +166,7 @@ final class TankEdges extends Edges {
                 .refused("cell", 0, -1, -2).refused("cell", 0, -1, 4).refused("cell", 0, 1, LOW)
                 .refused("cell", 0, 1, HIGH);
         x.set("tank", 6, 100, 50, 0).refused("cell", 6, -1, -1).due(100, "cell", 5, -1, -1);
+        running().refused("cell", 3, 0, 0).refused("cell", 0, 3, 0).refused("cell", 0, 0, 4);
         eightFeeds().set("tank", 2, 100, 50, 7).refused("cell", 0, 8, 0).due(100, "cell", 0, 7, 0);
 
         sentence("THE TANK was not made.");

@@ -31,6 +31,11 @@ final class ToldEdges extends Edges {
         return thousandths;
     }
 
+    /** All that can be set is set, but no tank was made. */
+    private Run unmade() {
+        return prepared().set("want", 0).set("change", 0, 1, 5).set("ring", 3);
+    }
+
     private void toldHours() {
         terms();
         sentence("TOLD HOURS are as hours would go by from now on, with THE MIX, whatever STOCKS are there,"
@@ -44,8 +49,18 @@ final class ToldEdges extends Edges {
         // with the mix, not with the shares told
         withColours(twoCells(), 1).set("span", 0, 1, 1, 1000).set("share", 1, 0).set("share", 0, 1000)
                 .due(3, "when", 0).set("mix").due(0, "when", 0);
+        // with the pull as it is now: by halves the last sand of cell 1 (50, 31, 18, 11, 6, 3, 1) goes in hour 10
+        withColours(twoCells(), 1).set("span", 0, 1, 1000, 1000).due(11, "when", 0).set("pull", 100).due(3, "when", 0)
+                .due(2, "between");
+        // the last number of a lot: the last thing of the last feed
+        Run x = withColours(empty(), 1);
+        for (int f = 0; f < 8; f++) {
+            x.set("feed", TINT, f < 7 ? 1000 : 0, 0, 0, f < 7 ? 0 : 1000, 0, 0);
+        }
+        x.set("share", 7, 1000).set("mix").set("tank", 2, 100, 100, 7).set("span", 0, 3, 1000, 1000).due(1, "when", 0)
+                .due(0, "between").due(100000, "dose", 0, 7);
         // as many hours as there may be have gone by: hours to come are told all the same
-        Run x = withColours(twoCells(), 1);
+        x = withColours(twoCells(), 1);
         for (int i = 0; i < 8; i++) {
             x.set("hours", 50);
         }
@@ -69,9 +84,10 @@ final class ToldEdges extends Edges {
         twoCells().refused("when", 0).set("colour").refused("when", -1).refused("when", 1).refused("when", LOW)
                 .refused("when", HIGH).due(1, "when", 0);
         withColours(twoCells(), 6).refused("when", 6).due(1, "when", 5);
+        running().refused("when", 3).refused("when", -1);
 
         sentence("THE TANK was not made,");
-        prepared().refused("when", 0).set("tank", 3, 1000, 100, 0).due(1, "when", 0);
+        unmade().refused("when", 0).set("tank", 3, 1000, 100, 0).due(1, "when", 0);
 
         sentence("or there is no MIX.");
         withColours(twoFeeds(), 1).set("tank", 2, 100, 10, 0).set("share", 0, 1000).refused("when", 0)
@@ -93,7 +109,7 @@ final class ToldEdges extends Edges {
         slow().set("span", 0, 1, 0, slowGlass(99)).due(1, "between");
 
         sentence("NO: THE TANK was not made,");
-        prepared().refused("between").set("tank", 3, 1000, 100, 0).due(18, "between");
+        unmade().refused("between").set("tank", 3, 1000, 100, 0).due(18, "between");
 
         sentence("or there is no MIX.");
         twoFeeds().set("tank", 2, 100, 10, 0).set("share", 0, 1000).refused("between").set("mix").due(100, "between");
@@ -142,6 +158,15 @@ final class ToldEdges extends Edges {
         // all at once: 17.8, 17.6, 15.1 and 50.5 of the tint, then 10.1, 20.2, 20.2 and 50.5
         sharedWithDose(101, row(352, 349, 299), row(18, 18, 15, 50));
         sharedWithDose(101, row(200, 400, 400), row(10, 20, 20, 51));
+        leastShareWithDose();
+    }
+
+    /** A thousandth of the mix is feed 1: half of that, 50 of 100000 grams, is left of it with a dose of 500. */
+    private void leastShareWithDose() {
+        withColours(empty(), 1).set("feed", SAND, 1000, 0, 0, 0, 0, 0).set("feed", SAND, 0, 1000, 0, 0, 0, 0)
+                .set("feed", TINT, 0, 0, 0, 1000, 0, 0).set("share", 0, 999).set("share", 1, 1).set("mix")
+                .set("tank", 2, 100000, 100000, 0).set("span", 0, 3, 500, 500).set("span", 0, 1, 0, 1)
+                .due(350001, "dose", 0, 2).set("span", 0, 1, 0, 0).due(0, "dose", 0, 2);
     }
 
     /** The glass of hour 3 with a dose of 500 of feed 3, the only one with thing 3; feed f has thing f. */
@@ -166,6 +191,8 @@ final class ToldEdges extends Edges {
                 .due(100000, "dose", 0, 1);
         // s 400 for an hour: 20 grams in, 10 to cell 1, 5 of 50 out in hour 3; s 300 brings 3 only
         x = dosing(2, 100, 50).set("span", 0, 3, 100, 1000).due(0, "when", 0).keeps(340001, "dose", 0, 1);
+        // of a colour that is not its name
+        withColours(dosing(2, 100, 50), 1).set("span", 1, 3, 100, 1000).due(340001, "dose", 1, 1);
 
         sentence("of all DOSES of a TINT with s a multiple of 100");
         x = dosing(2, 100, 100);
@@ -215,6 +242,10 @@ final class ToldEdges extends Edges {
         // a dose of what the tank is full of brings the colour later only
         slow().set("span", 0, 1, slowGlass(100), 1000).due(10000000, "dose", 0, 2);
         slow().set("span", 0, 1, slowGlass(101), 1000).keeps(0, "dose", 0, 2);
+        // the strongest dose and no other brings 45 in hour 100, and in the greater tank 42 in hour 101
+        doseDue(dosing(6, 20000, 1000), 45, 1000, 10050010);
+        doseDue(dosing(6, 21000, 1000), 41, 1000, 9750010);
+        doseDue(dosing(6, 21000, 1000), 42, 1000, 0);
     }
 
     private void doseRefused() {
@@ -222,6 +253,7 @@ final class ToldEdges extends Edges {
         Run x = dosing(2, 100, 100).refused("dose", -1, 1).refused("dose", 1, 1).refused("dose", LOW, 1)
                 .refused("dose", HIGH, 1).due(100000, "dose", 0, 1);
         withColours(x, 5).refused("dose", 6, 1).due(100000, "dose", 5, 1);
+        running().refused("dose", 3, 1).refused("dose", -1, 1);
 
         sentence("f is no FEED of KIND TINT;");
         x = withColours(empty(), 1);
@@ -234,7 +266,7 @@ final class ToldEdges extends Edges {
                 .refused("dose", 0, HIGH).due(100000, "dose", 0, TINT);
 
         sentence("THE TANK was not made,");
-        prepared().refused("dose", 0, 1).set("tank", 3, 1000, 100, 0).due(100000, "dose", 0, 1);
+        unmade().refused("dose", 0, 1).set("tank", 3, 1000, 100, 0).due(100000, "dose", 0, 1);
 
         sentence("or there is no MIX.");
         withColours(empty(), 1).set("feed", TINT, 1000, 0, 0, 0, 0, 0).set("tank", 2, 100, 10, 0).set("share", 0, 1000)
