@@ -133,7 +133,7 @@ final class FlowEdges extends Edges {
                 .keeps(0, "hours", 1).set("stock", 7, 1).due(1, "hours", 2).due(0, "of", 7, 7);
 
         sentence("WASTE comes to a STOCK at its end.)");
-        x = empty().set("feed", OWN, 1000, 0, 0, 0, 0, 0).set("share", 0, 1000).set("mix").set("tank", 2, 100, 10, 0)
+        empty().set("feed", OWN, 1000, 0, 0, 0, 0, 0).set("share", 0, 1000).set("mix").set("tank", 2, 100, 10, 0)
                 .keeps(0, "hours", 50).set("stock", 0, 9).keeps(0, "hours", 50).set("stock", 0, 1)
                 .due(50, "hours", 50).due(10, "of", 0, 7);
     }

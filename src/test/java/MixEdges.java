@@ -247,7 +247,7 @@ final class MixEdges extends Edges {
                 .set("span", 0, 0, 491, 510).due(10000, "cheapest", 0).due(0, "of", 1, 8);
 
         sentence("the one with the least sum of share times PRICE;");
-        x = withColours(empty(), 1).set("feed", SAND, 1000, 0, 0, 0, 0, 10000).due(10000000, "cheapest", 0)
+        withColours(empty(), 1).set("feed", SAND, 1000, 0, 0, 0, 0, 10000).due(10000000, "cheapest", 0)
                 .set("feed", TINT, 1000, 0, 0, 0, 0, 9999).due(9999000, "cheapest", 0).due(1000, "of", 1, 8)
                 .set("feed", SAND, 1000, 0, 0, 0, 0, 0).due(0, "cheapest", 0).due(1000, "of", 2, 8).due(0, "of", 1, 8);
 

@@ -73,7 +73,7 @@ final class TankEdges extends Edges {
         lastOfLot().due(1, "tank", 2, 100, 1, 0).due(0, "cell", 0, 7, 3).due(100, "cell", 0, -1, -1);
 
         sentence("HOURS begin anew from 0, and what told() counts of them.");
-        x = running().set("want", 1).set("hours", 2).due(10, "told", 3).due(200, "told", 4).due(1000, "told", 5)
+        running().set("want", 1).set("hours", 2).due(10, "told", 3).due(200, "told", 4).due(1000, "told", 5)
                 .set("tank", 3, 1000, 50, 0).due(0, "told", 3).due(0, "told", 4).due(0, "told", 5)
                 .refused("glass", 0, 0).refused("lead", 0, 0)
                 .due(1, "hours", 1).due(1, "told", 3).due(50, "told", 4).due(50, "told", 5)

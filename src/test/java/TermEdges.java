@@ -7,6 +7,7 @@ final class TermEdges extends Edges {
     @Override
     void all() {
         lastCall();
+        questions();
         refusals();
     }
 
@@ -18,6 +19,14 @@ final class TermEdges extends Edges {
             x.due(2, "told", 0);
         }
         x.due(50, "hours", 50).due(50, "glass", 49, 6);
+    }
+
+    private void questions() {
+        section("Not promised");
+        sentence("Nothing is promised beyond the answers and state changes described above,");
+        running().keeps(700, "of", 0, 0).keeps(100, "of", 1, 8).keeps(1000, "cell", 2, -1, -1)
+                .keeps(28, "cell", 0, 1, 2).keeps(1, "sure", 1).keeps(0, "sure", 0).keeps(0, "glass", 7, 4).keeps(100, "lead", 7, 0)
+                .keeps(1, "next", 1).keeps(800, "told", 5);
     }
 
     private void refusals() {

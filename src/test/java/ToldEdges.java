@@ -133,7 +133,7 @@ final class ToldEdges extends Edges {
         doseDue(x, 0, 0, 100000);
         doseDue(x, 500, 1000, 350001);
         doseDue(x, 501, 1000, 0);
-        // one hour of it is not enough for 13 of 50 grams in hour 4: it ends
+        // one hour of it brings 6 of 50 grams in hour 3 and does not go on: 12 take two hours of it
         doseDue(dosing(2, 100, 50), 240, 1000, 450002);
 
         sentence("in these hours s of 1000 grams that come in are of it, the rest as THE MIX gives");
@@ -187,15 +187,15 @@ final class ToldEdges extends Edges {
         promise(20);
         sentence("The least number of the first TOLD HOUR whose GLASS is of a COLOUR,");
         // the shared example: 37 without a dose
-        Run x = prepared().set("tank", 3, 1000, 100, 0).due(37, "when", 1).keeps(1450008, "dose", 1, 1)
+        prepared().set("tank", 3, 1000, 100, 0).due(37, "when", 1).keeps(1450008, "dose", 1, 1)
                 .due(100000, "dose", 0, 1);
         // s 400 for an hour: 20 grams in, 10 to cell 1, 5 of 50 out in hour 3; s 300 brings 3 only
-        x = dosing(2, 100, 50).set("span", 0, 3, 100, 1000).due(0, "when", 0).keeps(340001, "dose", 0, 1);
+        dosing(2, 100, 50).set("span", 0, 3, 100, 1000).due(0, "when", 0).keeps(340001, "dose", 0, 1);
         // of a colour that is not its name
         withColours(dosing(2, 100, 50), 1).set("span", 1, 3, 100, 1000).due(340001, "dose", 1, 1);
 
         sentence("of all DOSES of a TINT with s a multiple of 100");
-        x = dosing(2, 100, 100);
+        Run x = dosing(2, 100, 100);
         doseDue(x, 1, 1000, 310001);
         doseDue(x, 101, 1000, 320001);
         doseDue(x, 150, 199, 0);
@@ -209,9 +209,8 @@ final class ToldEdges extends Edges {
 
         sentence("or none:");
         // all glass is of the colour but that of a dose
-        x = dosing(2, 100, 50);
-        doseDue(x, 0, 0, 100000);
-        // the dose would be too strong, and the mix brings the colour in hour 4: 25 of 50 grams
+        doseDue(dosing(2, 100, 50), 0, 0, 100000);
+        // a dose would bring more sand, and the mix brings the colour in hour 4: 25 of 50 grams
         withColours(twoCells(), 1).set("feed", TINT, 1000, 0, 0, 0, 0, 0).set("span", 0, 1, 500, 1000)
                 .due(4, "when", 0).due(400000, "dose", 0, 2);
 
